@@ -13,6 +13,7 @@ public final class MarginTables {
   private static final int MOST_SUM = MOST_ABOVE * MOST_SCORE;
   private static final int MOST_LETTERS = 200;
   private static final int MOST_UNDONE = 6;
+  private static final long MOST_WAYS = 9223372036854775807L;
   // Euclid's steps on two longs are 92 at most.
   private static final int MOST_DIVISIONS = 100;
 
@@ -154,7 +155,7 @@ public final class MarginTables {
   }
 
   public int stratum(int s, int what) {
-    Stratum stratum = find(s);
+    Stratum stratum = findFresh(s);
     if (stratum == null) {
       return BAD;
     }
@@ -164,22 +165,22 @@ public final class MarginTables {
       case 2: return stratum.columns.allAbove();
       case 3: return stratum.columns.seenSum();
       case 4: return stratum.tableCount();
-      case 5: return (int) stratum.freshNet().at(Net.LEAST, 0, 0);
-      case 6: return (int) stratum.freshNet().at(Net.GREATEST, 0, 0);
+      case 5: return (int) stratum.net.at(Net.LEAST, 0, 0);
+      case 6: return (int) stratum.net.at(Net.GREATEST, 0, 0);
       default: return BAD;
     }
   }
 
   public long ways(int s, int what) {
-    Stratum stratum = find(s);
+    Stratum stratum = findFresh(s);
     if (stratum == null) {
       return BAD;
     }
     switch (what) {
       case 0: return stratum.columns.seenWays();
       case 1: return stratum.allWays();
-      case 2: return stratum.freshNet().at(Net.LONGEST, 0, 0);
-      case 3: return stratum.freshNet().at(Net.SHORTEST, 0, 0);
+      case 2: return stratum.net.at(Net.LONGEST, 0, 0);
+      case 3: return stratum.net.at(Net.SHORTEST, 0, 0);
       default: return BAD;
     }
   }
@@ -187,7 +188,7 @@ public final class MarginTables {
   // ---- chances
 
   public long chance(int s, int law, int part) {
-    Stratum stratum = find(s);
+    Stratum stratum = findFresh(s);
     if (stratum == null || law < RARE || law > LOW || part < 0 || part > 1) {
       return BAD;
     }
@@ -201,20 +202,21 @@ public final class MarginTables {
     long all = 1;
     int seen = 0;
     joint.clear();
-    for (int s = 0; s < laid && s < strata.length; s++) {
-      long factor = strata[s].allWays();
-      if (factor < 1 || all > Long.MAX_VALUE / factor) {
+    for (int s = 0; s < laid; s++) {
+      Stratum stratum = findFresh(s);
+      long factor = stratum == null ? 0 : stratum.allWays();
+      if (stratum == null || factor < 1 || all > MOST_WAYS / factor) {
         return NONE;
       }
       all *= factor;
-      seen += strata[s].columns.seenSum();
-      joint.add(strata[s].freshSums());
+      seen += stratum.columns.seenSum();
+      joint.add(stratum.freshSums());
     }
     return inLowestTerms(joint.waysBy(law, seen), all, part);
   }
 
   public int strange(int s, int law) {
-    Stratum stratum = find(s);
+    Stratum stratum = findFresh(s);
     if (stratum == null || law < RARE || law > LOW) {
       return BAD;
     }
@@ -224,25 +226,24 @@ public final class MarginTables {
   // ---- nodes
 
   public long node(int s, int j, int a, int what) {
-    Stratum stratum = find(s);
+    Stratum stratum = findFresh(s);
     if (stratum == null || what < Net.AHEAD || what > Net.SHORTEST) {
       return BAD;
     }
     if (j < 0 || j > stratum.columns.size() || a < 0 || a > stratum.columns.allAbove()) {
       return BAD;
     }
-    Net net = stratum.freshNet();
-    return net.isThere(j, a) ? net.at(what, j, a) : NONE;
+    return stratum.net.isThere(j, a) ? stratum.net.at(what, j, a) : NONE;
   }
 
   public int looks(int s, int what) {
-    Stratum stratum = find(s);
+    Stratum stratum = findFresh(s);
     if (stratum == null) {
       return BAD;
     }
     switch (what) {
       case 0: return stratum.freshRare().lookCount();
-      case 1: return (int) stratum.freshNet().at(Net.LOOKS, 0, 0);
+      case 1: return (int) stratum.net.at(Net.LOOKS, 0, 0);
       default: return BAD;
     }
   }
@@ -250,7 +251,7 @@ public final class MarginTables {
   // ---- tables
 
   public int table(int s, int t, int j) {
-    Stratum stratum = find(s);
+    Stratum stratum = findFresh(s);
     if (stratum == null || !stratum.columns.has(j) || t < 0 || t >= stratum.tableCount()) {
       return BAD;
     }
@@ -258,12 +259,12 @@ public final class MarginTables {
   }
 
   public int rank(int s) {
-    Stratum stratum = find(s);
+    Stratum stratum = findFresh(s);
     return stratum == null ? BAD : stratum.seenRank();
   }
 
   public int likeliest(int s, int j) {
-    Stratum stratum = find(s);
+    Stratum stratum = findFresh(s);
     if (stratum == null || !stratum.columns.has(j)) {
       return BAD;
     }
@@ -281,20 +282,35 @@ public final class MarginTables {
 
   private int countInStrata(int what) {
     int together = 0;
-    for (int s = 0; s < laid && s < strata.length; s++) {
-      Columns columns = strata[s].columns;
-      switch (what) {
-        case 1: together += columns.size(); break;
-        case 2: together += columns.allTotal(); break;
-        case 3: together += columns.allAbove(); break;
-        default: together += columns.seenSum(); break;
+    for (int s = 0; s < laid; s++) {
+      Stratum stratum = find(s);
+      if (stratum != null) {
+        together += countInColumns(stratum.columns, what);
       }
     }
     return together;
   }
 
+  private static int countInColumns(Columns columns, int what) {
+    switch (what) {
+      case 1: return columns.size();
+      case 2: return columns.allTotal();
+      case 3: return columns.allAbove();
+      default: return columns.seenSum();
+    }
+  }
+
   private Stratum find(int s) {
     return s >= 0 && s < laid && s < strata.length ? strata[s] : null;
+  }
+
+  /** The stratum with its net worked out, for the calls that ask of it. */
+  private Stratum findFresh(int s) {
+    Stratum stratum = find(s);
+    if (stratum != null) {
+      stratum.net.refresh();
+    }
+    return stratum;
   }
 
   private boolean takeText() {
@@ -302,8 +318,11 @@ public final class MarginTables {
       return false;
     }
     laid = reader.strataRead();
-    for (int s = 0; s < laid && s < strata.length; s++) {
-      strata[s].columns.copyOf(reader.draft(s));
+    for (int s = 0; s < laid; s++) {
+      Stratum stratum = find(s);
+      if (stratum != null) {
+        stratum.columns.copyOf(reader.draft(s));
+      }
     }
     past.clear();
     return true;
@@ -406,8 +425,9 @@ public final class MarginTables {
     }
 
     boolean canBeLaid() {
-      for (int s = 0; s < strataRead && s < drafts.length; s++) {
-        if (drafts[s].size() < FEWEST_COLUMNS) {
+      for (int s = 0; s < strataRead; s++) {
+        Columns columns = draft(s);
+        if (columns == null || columns.size() < FEWEST_COLUMNS) {
           return false;
         }
       }
@@ -475,8 +495,11 @@ public final class MarginTables {
       if (strataRead >= drafts.length) {
         return false;
       }
-      drafts[strataRead].clear();
       strataRead++;
+      Columns columns = draft(strataRead - 1);
+      if (columns != null) {
+        columns.clear();
+      }
       return true;
     }
 
@@ -676,10 +699,10 @@ public final class MarginTables {
     }
   }
 
-  /** What is worked out of one stratum's columns, each part only when it is asked for. */
+  /** One stratum's columns and what is worked out of them; its net is fresh wherever that is asked for. */
   private static final class Stratum {
     final Columns columns;
-    private final Net net;
+    final Net net;
     private final RareWalk rare;
     private final SumWalk sums;
 
@@ -690,29 +713,22 @@ public final class MarginTables {
       sums = new SumWalk(columns, net);
     }
 
-    Net freshNet() {
-      net.refresh();
-      return net;
-    }
-
     RareWalk freshRare() {
-      net.refresh();
       rare.refresh();
       return rare;
     }
 
     SumWalk freshSums() {
-      net.refresh();
       sums.refresh();
       return sums;
     }
 
     long allWays() {
-      return freshNet().at(Net.BEHIND, 0, 0);
+      return net.at(Net.BEHIND, 0, 0);
     }
 
     int tableCount() {
-      return (int) freshNet().at(Net.TABLES, 0, 0);
+      return (int) net.at(Net.TABLES, 0, 0);
     }
 
     long strangeWays(int law) {
@@ -724,12 +740,11 @@ public final class MarginTables {
     }
 
     int seenRank() {
-      Net fresh = freshNet();
       long tablesBefore = 0;
       int taken = 0;
       for (int j = 0; j < columns.size(); j++) {
         for (int number = 0; number < columns.aboveOf(j); number++) {
-          tablesBefore += fresh.at(Net.TABLES, j + 1, taken + number);
+          tablesBefore += net.at(Net.TABLES, j + 1, taken + number);
         }
         taken += columns.aboveOf(j);
       }
@@ -737,17 +752,17 @@ public final class MarginTables {
     }
 
     int numberIn(int t, int wanted) {
-      Net fresh = freshNet();
-      long ahead = t;
+      long tablesBefore = t;
       int taken = 0;
       int number = 0;
       for (int j = 0; j <= wanted && j < columns.size(); j++) {
-        for (number = 0; number < columns.totalOf(j); number++) {
-          long tables = fresh.at(Net.TABLES, j + 1, taken + number);
-          if (ahead < tables) {
+        int most = net.most(j, taken);
+        for (number = net.fewest(j, taken); number < most; number++) {
+          long tables = net.at(Net.TABLES, j + 1, taken + number);
+          if (tablesBefore < tables) {
             break;
           }
-          ahead -= tables;
+          tablesBefore -= tables;
         }
         taken += number;
       }
@@ -755,13 +770,13 @@ public final class MarginTables {
     }
 
     int numberInLikeliest(int wanted) {
-      Net fresh = freshNet();
       int taken = 0;
       int number = 0;
       for (int j = 0; j <= wanted && j < columns.size(); j++) {
-        long most = fresh.at(Net.LONGEST, j, taken);
-        for (number = 0; number < columns.totalOf(j); number++) {
-          if (columns.waysOf(j, number) * fresh.at(Net.LONGEST, j + 1, taken + number) == most) {
+        long longest = net.at(Net.LONGEST, j, taken);
+        int most = net.most(j, taken);
+        for (number = net.fewest(j, taken); number < most; number++) {
+          if (columns.waysOf(j, number) * net.at(Net.LONGEST, j + 1, taken + number) == longest) {
             break;
           }
         }
@@ -780,11 +795,15 @@ public final class MarginTables {
 
     private final Columns columns;
     private final long[][] cells;
+    private final int[] totalsFrom;
+    private int allAbove;
     private int version;
 
     Net(Columns columns) {
       this.columns = columns;
       cells = new long[KINDS][(MOST_COLUMNS + 1) * WIDTH];
+      totalsFrom = new int[MOST_COLUMNS + 1];
+      allAbove = 0;
       version = 0;
     }
 
@@ -806,13 +825,27 @@ public final class MarginTables {
       cells[kind][j * WIDTH + a] = value;
     }
 
+    /** From a node that is there the next one is there with the numbers from fewest to most, and no others. */
+    int fewest(int j, int a) {
+      return j >= 0 && j < MOST_COLUMNS ? Math.max(0, allAbove - a - totalsFrom[j + 1]) : 0;
+    }
+
+    int most(int j, int a) {
+      return Math.min(columns.totalOf(j), allAbove - a);
+    }
+
     void refresh() {
       if (version == columns.version()) {
         return;
       }
       version = columns.version();
+      allAbove = columns.allAbove();
       for (int kind = 0; kind < KINDS; kind++) {
         Arrays.fill(cells[kind], 0);
+      }
+      Arrays.fill(totalsFrom, 0);
+      for (int j = MOST_COLUMNS - 1; j >= 0; j--) {
+        totalsFrom[j] = totalsFrom[j + 1] + columns.totalOf(j);
       }
       countBehind();
       countAhead();
@@ -820,19 +853,15 @@ public final class MarginTables {
 
     private void countBehind() {
       int size = columns.size();
-      int allAbove = columns.allAbove();
       put(BEHIND, size, allAbove, 1);
       put(LONGEST, size, allAbove, 1);
       put(SHORTEST, size, allAbove, 1);
       put(TABLES, size, allAbove, 1);
-      int totalAhead = columns.allTotal();
-      for (int j = size - 1; j >= 0; j--) {
-        totalAhead -= columns.totalOf(j);
-        // No row ahead of the column reaches more, so no table comes by a node beyond.
-        int most = Math.min(totalAhead, allAbove);
-        for (int a = 0; a <= most; a++) {
-          weighBehind(j, a);
-          if (at(BEHIND, j, a) > 0) {
+      for (int j = size - 1; j >= 0 && j <= MOST_COLUMNS; j--) {
+        int totalAhead = totalsFrom[0] - totalsFrom[j];
+        for (int a = 0; a <= totalAhead && a <= allAbove; a++) {
+          if (fewest(j, a) <= most(j, a)) {
+            weighBehind(j, a);
             countWalksBehind(j, a);
             sumBehind(j, a);
           }
@@ -843,17 +872,13 @@ public final class MarginTables {
     private void weighBehind(int j, int a) {
       long behind = 0;
       long longest = 0;
-      long shortest = 0;
-      for (int number = 0; number <= columns.totalOf(j); number++) {
-        int b = a + number;
+      long shortest = MOST_WAYS;
+      int most = most(j, a);
+      for (int number = fewest(j, a); number <= most; number++) {
         long ways = columns.waysOf(j, number);
-        long shortestHere = ways * at(SHORTEST, j + 1, b);
-        behind += ways * at(BEHIND, j + 1, b);
-        longest = Math.max(longest, ways * at(LONGEST, j + 1, b));
-        // No row has fewer ways than 1, so 0 stands for none yet.
-        if (shortestHere > 0 && (shortest == 0 || shortestHere < shortest)) {
-          shortest = shortestHere;
-        }
+        behind += ways * at(BEHIND, j + 1, a + number);
+        longest = Math.max(longest, ways * at(LONGEST, j + 1, a + number));
+        shortest = Math.min(shortest, ways * at(SHORTEST, j + 1, a + number));
       }
       put(BEHIND, j, a, behind);
       put(LONGEST, j, a, longest);
@@ -863,12 +888,10 @@ public final class MarginTables {
     private void countWalksBehind(int j, int a) {
       long tables = 0;
       long looks = 0;
-      for (int number = 0; number <= columns.totalOf(j); number++) {
-        int b = a + number;
-        if (at(BEHIND, j + 1, b) > 0) {
-          tables += at(TABLES, j + 1, b);
-          looks += 1 + at(LOOKS, j + 1, b);
-        }
+      int most = most(j, a);
+      for (int number = fewest(j, a); number <= most; number++) {
+        tables += at(TABLES, j + 1, a + number);
+        looks += 1 + at(LOOKS, j + 1, a + number);
       }
       put(TABLES, j, a, tables);
       put(LOOKS, j, a, looks);
@@ -877,13 +900,11 @@ public final class MarginTables {
     private void sumBehind(int j, int a) {
       long least = MOST_SUM;
       long greatest = 0;
-      for (int number = 0; number <= columns.totalOf(j); number++) {
-        int b = a + number;
-        if (at(BEHIND, j + 1, b) > 0) {
-          long sum = number * columns.scoreOf(j);
-          least = Math.min(least, sum + at(LEAST, j + 1, b));
-          greatest = Math.max(greatest, sum + at(GREATEST, j + 1, b));
-        }
+      int most = most(j, a);
+      for (int number = fewest(j, a); number <= most; number++) {
+        long sum = number * columns.scoreOf(j);
+        least = Math.min(least, sum + at(LEAST, j + 1, a + number));
+        greatest = Math.max(greatest, sum + at(GREATEST, j + 1, a + number));
       }
       put(LEAST, j, a, least);
       put(GREATEST, j, a, greatest);
@@ -892,8 +913,8 @@ public final class MarginTables {
     private void countAhead() {
       put(AHEAD, 0, 0, 1);
       for (int j = 1; j <= columns.size(); j++) {
-        for (int a = 0; a < WIDTH; a++) {
-          if (at(BEHIND, j, a) > 0) {
+        for (int a = 0; a <= allAbove; a++) {
+          if (isThere(j, a)) {
             put(AHEAD, j, a, waysAhead(j, a));
           }
         }
@@ -953,10 +974,9 @@ public final class MarginTables {
       if (!columns.has(j)) {
         return;
       }
-      for (int number = 0; number <= columns.totalOf(j); number++) {
-        if (net.isThere(j + 1, a + number)) {
-          lookAt(j + 1, a + number, ways * columns.waysOf(j, number));
-        }
+      int most = net.most(j, a);
+      for (int number = net.fewest(j, a); number <= most; number++) {
+        lookAt(j + 1, a + number, ways * columns.waysOf(j, number));
       }
     }
 
@@ -977,6 +997,8 @@ public final class MarginTables {
     private final Net net;
     private final long[] ways;
     private final int[] tables;
+    private int least;
+    private int greatest;
     private int version;
 
     SumWalk(Columns columns, Net net) {
@@ -984,7 +1006,17 @@ public final class MarginTables {
       this.net = net;
       ways = new long[MOST_SUM + 1];
       tables = new int[MOST_SUM + 1];
+      least = 0;
+      greatest = 0;
       version = 0;
+    }
+
+    int least() {
+      return least;
+    }
+
+    int greatest() {
+      return greatest;
     }
 
     long waysOf(int sum) {
@@ -1020,21 +1052,26 @@ public final class MarginTables {
         return;
       }
       version = columns.version();
+      least = (int) net.at(Net.LEAST, 0, 0);
+      greatest = (int) net.at(Net.GREATEST, 0, 0);
       Arrays.fill(ways, 0);
       Arrays.fill(tables, 0);
       walkFrom(0, 0, 0, 1);
     }
 
     private void walkFrom(int j, int a, int sum, long waysSoFar) {
-      if (!columns.has(j)) {
-        take(sum, waysSoFar);
-        return;
+      int score = columns.scoreOf(j);
+      int most = net.most(j, a);
+      for (int number = net.fewest(j, a); number <= most; number++) {
+        comeTo(j + 1, a + number, sum + number * score, waysSoFar * columns.waysOf(j, number));
       }
-      for (int number = 0; number <= columns.totalOf(j); number++) {
-        if (net.isThere(j + 1, a + number)) {
-          int nextSum = sum + number * columns.scoreOf(j);
-          walkFrom(j + 1, a + number, nextSum, waysSoFar * columns.waysOf(j, number));
-        }
+    }
+
+    private void comeTo(int j, int a, int sum, long waysSoFar) {
+      if (columns.has(j)) {
+        walkFrom(j, a, sum, waysSoFar);
+      } else {
+        take(sum, waysSoFar);
       }
     }
 
@@ -1075,12 +1112,15 @@ public final class MarginTables {
           spread(ahead, waysAhead[ahead], sums);
         }
       }
-      greatest += MOST_SUM;
+      greatest += sums.greatest();
     }
 
     private void spread(int ahead, long factor, SumWalk sums) {
-      for (int sum = 0; sum <= MOST_SUM && ahead + sum < ways.length; sum++) {
-        ways[ahead + sum] += factor * sums.waysOf(sum);
+      int most = sums.greatest();
+      for (int sum = sums.least(); sum <= most; sum++) {
+        if (ahead + sum >= 0 && ahead + sum < ways.length) {
+          ways[ahead + sum] += factor * sums.waysOf(sum);
+        }
       }
     }
 

@@ -30,7 +30,7 @@ public final class LanguageTest {
 
   private static final String[] FORBIDDEN = {"\\bthrow\\b", "\\btry\\b", "\\bcatch\\b", "\\bsynchronized\\b",
     "\\bassert\\b", "->", "::", "\\bequals\\b", "\\bhashCode\\b", "\\btoString\\b", "Exact\\b", "\\bvar\\b",
-    "\\bSystem\\.(?!arraycopy\\b)", "\\bfloat\\b", "\\bdouble\\b", "\\bObject\\b", "\\binterface\\b.*\\bprivate\\b",
+    "\\bSystem\\.(?!arraycopy\\b)", "\\bfloat\\b", "\\bdouble\\b", "\\bObject\\b",
     "\\bpackage\\b", "\\bstatic \\{", "\\[\\]\\[\\]\\[\\]", "[^\\x00-\\x7f]", "\\bThread\\b", "\\bnative\\b"};
 
   private static int wrong = 0;
@@ -78,7 +78,8 @@ public final class LanguageTest {
     }
     for (Field field : face.getDeclaredFields()) {
       boolean isConstant = Arrays.asList("BAD", "NO", "FULL", "NONE").contains(field.getName());
-      if (Modifier.isPublic(field.getModifiers()) != isConstant || Modifier.isPrivate(field.getModifiers()) == isConstant) {
+      int modifiers = field.getModifiers();
+      if (Modifier.isPublic(modifiers) != isConstant || Modifier.isPrivate(modifiers) == isConstant) {
         fault("the field " + field.getName() + " is open or shut wrongly");
       }
     }

@@ -148,7 +148,8 @@ public final class PromisesTest {
     }
     String[] atTwo = {"s;c0,0,0;", "s;c13,0,0;", "s;c5,6,0;", "s;c5,0,10;", "s;c5,5,5", "s;c5,5", "s;c",
       "s;;", "s; ", "s;x;", "s;c;", "s;c5;", "s;c5,;", "s;c5,5;", "s;c5,5,;", "s;c,5,5;", "s;c5,,5;",
-      "s;c5,5,5,;", "s;c5,5,5 ;", "s; c5,5,5;", "s;c005,5,5;", "s;c5,005,5;", "s;c5,5,005;", "s;c-5,5,5;",
+      "s;c5,5,5,;", "s;c5,5,5 ;", "s; c5,5,5;", "s;c125,5;", "s;c5,055;", "s;c005,5,5;", "s;c5,005,5;",
+      "s;c5,5,005;", "s;c-5,5,5;",
       "s;C5,5,5;", "s;S;", "s;ss;", "s;s", "s;s1;", "s;c5.5,5;", "s;c5;5,5;", "s;c99,0,0;", "s;c5,5,5:"};
     for (String text : atTwo) {
       due("fault() of " + text, faultOf(text), 2);
@@ -492,7 +493,10 @@ public final class PromisesTest {
     dueJoined(laid(greatWithoutScores + "s;c6,2,0;c6,0,1;"), 1, 1, 1);
     dueJoined(laid(greatWithoutScores + "s;c6,2,0;c6,0,1;"), 2, 5, 22);
     due("joined(1, 0) of 78 times", laid(greatWithoutScores + "s;c12,2,0;c1,0,0;").joined(1, 0), NONE);
-    due("joined(1, 0) of 66 times 2", laid("s;c6,1,0;c6,1,0;s;c1,1,0;c1,0,0;" + greatWithoutScores).joined(1, 0), NONE);
+    String twelveAndTwo = "s;c6,1,0;c6,0,0;s;c1,1,0;c1,0,0;";
+    due("joined(1, 0) of 12 times 2", laid(twelveAndTwo + greatWithoutScores).joined(1, 0), 1);
+    String twelveAndSeven = "s;c6,1,0;c6,0,0;s;c6,1,0;c1,0,0;";
+    due("joined(1, 0) of 12 times 7", laid(twelveAndSeven + greatWithoutScores).joined(1, 0), NONE);
     MarginTables most = laid("s;c12,12,9;c12,12,9;c12,12,9;c12,12,9;c12,12,9;"
         + "s;c12,12,9;c12,12,9;c12,12,9;c12,12,9;c12,12,9;s;c12,12,9;c12,12,9;c12,12,9;c12,12,9;c12,12,9;");
     dueJoined(most, 1, 1, 1);
