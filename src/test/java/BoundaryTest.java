@@ -214,6 +214,11 @@ public final class BoundaryTest {
     dueFault("s;c12,001,1;", 2);
     dueFault("s;c12,1,001;", 2);
     dueFault("s;c12,1,100;", 2);
+    // A , between two numbers is not missed because each has its two figures.
+    dueFault("s;c1201,5;", 2);
+    dueFault("s;c12,0105;", 2);
+    dueFault("s;c120105;", 2);
+    dueFault("s;c12,01,05c12,01,05;", 2);
     // The signs next to the figures, and such as stand for a number elsewhere.
     dueFault("s;c/,0,0;", 2);
     dueFault("s;c:,0,0;", 2);
@@ -456,6 +461,15 @@ public final class BoundaryTest {
     dueChance(x, 0, 0, 1, 3);
     dueChance(x, 0, 1, 1, 6);
     dueChance(x, 0, 2, 1, 1);
+    // Told anew, all is reckoned anew.
+    x.set(0, 1, 0, 1);
+    dueChance(x, 0, 0, 1, 1);
+    due("strange(0, 0)", x.strange(0, 0), 2);
+    dueChance(x, 0, 1, 1, 2);
+    x.undo();
+    dueChance(x, 0, 0, 1, 3);
+    due("strange(0, 0)", x.strange(0, 0), 2);
+    dueChance(x, 0, 1, 1, 6);
     x = laid("s;c12,12,9;c12,12,9;c12,6,1;c12,0,0;c12,0,0;");
     dueChance(x, 0, 1, 3, 383975914171628L);
     x = laid("s;c12,12,9;c12,12,9;c12,0,1;c12,0,0;c12,0,0;");
@@ -500,6 +514,9 @@ public final class BoundaryTest {
     // 1352078 times 817190 times 8347680 are 9223390205126697600, the nearest above.
     String[] above = {"s;c12,12,0;c11,0,0;", "s;c12,12,0;c11,2,0;", "s;c12,12,1;c12,12,0;c12,5,0;"};
     dueInAllOrders(above, NONE, NONE);
+    // 118264581564861424 go 77 times into that number, and not 78 times.
+    dueInAllOrders(new String[] {"s;c6,1,0;c1,0,0;", "s;c10,1,0;c1,0,0;", WIDEST}, 1, 1);
+    dueInAllOrders(new String[] {"s;c5,1,0;c1,0,0;", "s;c12,1,0;c1,0,0;", WIDEST}, NONE, NONE);
     // 229911617056 times 40116600 are below, 751616304549 times 12271512 above.
     dueJoined(laid("s;c12,12,0;c12,12,0;c12,5,0;c8,0,0;s;c12,12,0;c12,2,0;c4,0,0;"), 1, 1, 1);
     dueJoined(laid("s;c12,12,0;c12,2,0;c4,0,0;s;c12,12,0;c12,12,0;c12,5,0;c8,0,0;"), 2, 1, 1);

@@ -16,6 +16,7 @@ import java.util.regex.Pattern;
 /** The rules of ../shared/LANGUAGE.md that can be seen from the source's words and from the class itself. */
 public final class LanguageTest {
   private static final Path SOURCE = Path.of("src/main/java/MarginTables.java");
+  private static final Path DOCUMENT = Path.of("../shared/DOC.md");
   private static final int MOST_CLASSES = 12;
   private static final int MOST_FIELDS = 20;
   private static final int MOST_PARAMETERS = 7;
@@ -57,6 +58,36 @@ public final class LanguageTest {
         fault("the source imports " + imports.group(1));
       }
     }
+  }
+
+  /** What the document's interface says ahead of its calls stands ahead of them in the source too. */
+  private static void checkHeads(List<String> lines) throws IOException {
+    Pattern head = Pattern.compile("Ahead of the calls (.*) the interface says: (---- .*)\\.");
+    int at = 0;
+    int heads = 0;
+    for (String sentence : Files.readAllLines(DOCUMENT)) {
+      Matcher matcher = head.matcher(sentence);
+      if (matcher.matches()) {
+        heads++;
+        at = lineBehind(lines, at, "  // " + matcher.group(2));
+        for (String call : matcher.group(1).split(", ")) {
+          at = lineBehind(lines, at, "  public .* " + call.replace("`", "") + "\\(.*");
+        }
+      }
+    }
+    if (heads != 6) {
+      fault("the document has " + heads + " heads");
+    }
+  }
+
+  private static int lineBehind(List<String> lines, int from, String pattern) {
+    for (int i = from; i < lines.size(); i++) {
+      if (lines.get(i).matches(pattern)) {
+        return i + 1;
+      }
+    }
+    fault("not where it is due: " + pattern);
+    return from;
   }
 
   private static void checkFace() {
@@ -144,6 +175,7 @@ public final class LanguageTest {
     List<String> lines = Files.readAllLines(SOURCE);
     checkWords(withoutComments(String.join("\n", lines)));
     checkFace();
+    checkHeads(lines);
     checkLengths(lines);
     System.out.println(wrong == 0 ? "the rules are kept" : wrong + " rules are not kept");
     if (wrong != 0) {
