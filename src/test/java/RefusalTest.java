@@ -14,7 +14,8 @@ public final class RefusalTest {
   private static final int[] J = {-1, 0, 1, 2, 3, 4, 5, 6, 65536, Integer.MIN_VALUE, Integer.MAX_VALUE};
   private static final int[] WHAT = {-1, 0, 1, 2, 3, 4, 7, Integer.MIN_VALUE, Integer.MAX_VALUE};
   private static final int[] VALUE = {-1, 0, 1, 2, 3, 5, 9, 10, 12, 13, Integer.MIN_VALUE, Integer.MAX_VALUE};
-  private static final int[] LETTER = {-1, 0, 31, 32, 59, 99, 115, 126, 127, 256 + 59, Integer.MIN_VALUE, Integer.MAX_VALUE};
+  private static final int[] LETTER = {-1, 0, 31, 32, 59, 99, 115, 126, 127, 256 + 59,
+    Integer.MIN_VALUE, Integer.MAX_VALUE};
 
   private static int wrong = 0;
   private static int refused = 0;
