@@ -9,7 +9,8 @@ import java.util.Map;
 /**
  * Each sentence of ../shared/DOC.md at its boundaries: too small, too large, empty, full, a wrap-around, a
  * refused call. A test names the promises and, word by word, the sentence. At the end no sentence of the
- * document's terms and promises may be left without a test, and none may be named that does not stand there.
+ * document may be left without a test, and none may be named that does not stand there. The lines of the
+ * public face and the heads of the interface are LanguageTest's.
  */
 public final class BoundaryTest {
   private static final Path DOCUMENT = Path.of("../shared/DOC.md");
@@ -56,6 +57,12 @@ public final class BoundaryTest {
 
   private static void promise(int number, String sentence) {
     says("Promise " + number, Integer.toString(number), sentence);
+  }
+
+  /** A sentence that leaves something free: nothing is due, but it must still stand there. */
+  private static void free(String sentence) {
+    says("Not promised", "none", sentence);
+    asked++;
   }
 
   private static void fault(String text) {
@@ -119,7 +126,64 @@ public final class BoundaryTest {
     }
   }
 
-  // ---- What it is
+  // ---- What it is, and what is free
+
+  private static void overview() {
+    says("What it is", "1 to 21", "How strange a table is among all tables of equal margins: "
+        + "strata of columns, each with so many in all, so many of them above; "
+        + "all ways to have as many above in all, walked column by column through a net of nodes; "
+        + "ways of each table, the most, the fewest, chances of what is as strange as what was seen, "
+        + "by ways or by scores, exactly; strata joined; bounds from each node on by which a walk is cut short, "
+        + "how many looks that takes; tables by number and back; one moved from column to column, "
+        + "all turned upside down, undone; told in a text with the first fault.");
+    MarginTables x = new MarginTables();
+    tell(x, "s;c2,2,0;c3,1,1;s;c2,0;");
+    due("fault()", x.fault(), 18);
+    due("wipe()", x.wipe(), 23);
+    tell(x, "s;c2,2,0;c3,1,1;" + SMALL);
+    due("fault()", x.fault(), NONE);
+    due("lay()", x.lay(), 2);
+    // Stratum 0, its tables with their ways and sums: (0, 3) 1, 3; (1, 2) 6, 2; (2, 1) 3, 1, seen.
+    dueColumn(x, 0, 1, 3, 1, 1);
+    due("stratum(0, 4)", x.stratum(0, 4), 3);
+    long[] ways = {3, 10, 6, 1};
+    for (int what = 0; what < 4; what++) {
+      due("ways(0, " + what + ")", x.ways(0, what), ways[what]);
+    }
+    dueNode(x, 1, 0, 1, 1, 1, 1);
+    dueNode(x, 1, 1, 2, 3, 3, 3);
+    dueNode(x, 1, 2, 1, 3, 3, 3);
+    due("looks(0, 0)", x.looks(0, 0), 3);
+    due("looks(0, 1)", x.looks(0, 1), 6);
+    dueChance(x, 0, 0, 2, 5);
+    dueChance(x, 0, 1, 1, 1);
+    dueChance(x, 0, 2, 3, 10);
+    // Of all 60 ways 3 have sums below 2 together (1 and 0), and 21 have 2 or less (these, 1 and 1, 2 and 0).
+    dueJoined(x, 1, 19, 20);
+    dueJoined(x, 2, 7, 20);
+    due("rank(0)", x.rank(0), 2);
+    for (int t = 0; t < 3; t++) {
+      due("table(0, " + t + ", 0)", x.table(0, t, 0), t);
+      due("table(0, " + t + ", 1)", x.table(0, t, 1), 3 - t);
+    }
+    due("likeliest(0, 0)", x.likeliest(0, 0), 1);
+    due("move(0, 0, 1)", x.move(0, 0, 1), 2);
+    due("rank(0) moved", x.rank(0), 1);
+    due("turn(0)", x.turn(0), 2);
+    due("column(0, 0, 1) turned", x.column(0, 0, 1), 1);
+    due("column(0, 1, 1) turned", x.column(0, 1, 1), 1);
+    due("undo()", x.undo(), 1);
+    due("undo()", x.undo(), 0);
+    due("rank(0) undone", x.rank(0), 2);
+  }
+
+  private static void whatIsFree() {
+    free("How the state is held inside the object is free, as are the speed of each call, the text of toString "
+        + "and the behaviour of equals and hashCode.");
+    free("Use of one object from several threads at once is not promised to be safe.");
+    free("Nothing is promised beyond the answers and state changes described above, "
+        + "and nothing about an object after its 512th call.");
+  }
 
   private static void use() {
     says("What it is", "1 to 21", "An object is used for at most 512 calls after it has been made; "
@@ -1504,27 +1568,29 @@ public final class BoundaryTest {
           rest = rest.substring(0, at) + "|" + rest.substring(at + sentence.length());
         }
       }
-      if (!named.getKey().equals("What it is") && rest.matches(".*[A-Za-z0-9].*")) {
+      if (rest.matches(".*[A-Za-z0-9].*")) {
         fault("no test for this under " + named.getKey() + ": " + rest);
       }
     }
     for (String place : places.keySet()) {
-      if ((place.equals("Terms") || place.startsWith("Promise ")) && !NAMED.containsKey(place)) {
+      if (!NAMED.containsKey(place) && !place.equals("# MarginTables") && !place.equals("The public face")) {
         fault("no test for anything under " + place);
       }
     }
     if (asked == 0) {
       fault("no call for " + told);
     }
-    if (NAMED.size() != 23) {
+    if (NAMED.size() != 24) {
       fault("the places are " + NAMED.keySet());
     }
   }
 
   public static void main(String[] args) throws IOException {
+    overview();
     use();
     testTerms();
     testPromises();
+    whatIsFree();
     checkSentences();
     System.out.println(wrong == 0 ? "each sentence holds at its boundaries" : wrong + " faults");
     if (wrong != 0) {

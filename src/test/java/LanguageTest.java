@@ -5,6 +5,7 @@ import java.lang.reflect.Method;
 import java.lang.reflect.Modifier;
 import java.nio.file.Files;
 import java.nio.file.Path;
+import java.util.ArrayList;
 import java.util.Arrays;
 import java.util.HashSet;
 import java.util.List;
@@ -60,6 +61,42 @@ public final class LanguageTest {
     }
   }
 
+  /** The source's public lines are those of the document's face, in its order, word by word, as are the promises'. */
+  private static void checkPublicLines(List<String> lines) throws IOException {
+    List<String> due = new ArrayList<>();
+    List<String> promised = new ArrayList<>();
+    boolean isFace = false;
+    for (String line : Files.readAllLines(DOCUMENT)) {
+      isFace = line.startsWith("## ") ? line.equals("## The public face") : isFace;
+      if (isFace && line.trim().startsWith("public ")) {
+        due.add(line.trim().replaceAll("\\);$", ") {"));
+      }
+      if (line.matches("`[^`]*\\)`: .*")) {
+        promised.add("public " + line.substring(1, line.indexOf("`:")) + " {");
+      }
+    }
+    if (promised.size() != 21 || !due.containsAll(promised)) {
+      fault("the document promises " + promised);
+    }
+    List<String> found = new ArrayList<>();
+    for (String line : lines) {
+      if (line.trim().startsWith("public ")) {
+        found.add(line.trim());
+      }
+    }
+    if (due.size() != FACE.size() + 3) {
+      fault("the document's face has " + due.size() + " lines");
+    }
+    for (String line : due) {
+      if (!found.contains(line)) {
+        fault("the document's face has the line " + line);
+      }
+    }
+    if (!found.equals(due)) {
+      fault("the public lines are " + found);
+    }
+  }
+
   /** What the document's interface says ahead of its calls stands ahead of them in the source too. */
   private static void checkHeads(List<String> lines) throws IOException {
     Pattern head = Pattern.compile("Ahead of the calls (.*) the interface says: (---- .*)\\.");
@@ -69,9 +106,9 @@ public final class LanguageTest {
       Matcher matcher = head.matcher(sentence);
       if (matcher.matches()) {
         heads++;
-        at = lineBehind(lines, at, "  // " + matcher.group(2));
+        at = lineBehind(lines, at, "  // " + matcher.group(2), sentence);
         for (String call : matcher.group(1).split(", ")) {
-          at = lineBehind(lines, at, "  public .* " + call.replace("`", "") + "\\(.*");
+          at = lineBehind(lines, at, "  public .* " + call.replace("`", "") + "\\(.*", sentence);
         }
       }
     }
@@ -80,13 +117,13 @@ public final class LanguageTest {
     }
   }
 
-  private static int lineBehind(List<String> lines, int from, String pattern) {
+  private static int lineBehind(List<String> lines, int from, String pattern, String sentence) {
     for (int i = from; i < lines.size(); i++) {
       if (lines.get(i).matches(pattern)) {
         return i + 1;
       }
     }
-    fault("not where it is due: " + pattern);
+    fault("not where it is due by \"" + sentence + "\": " + pattern);
     return from;
   }
 
@@ -175,6 +212,7 @@ public final class LanguageTest {
     List<String> lines = Files.readAllLines(SOURCE);
     checkWords(withoutComments(String.join("\n", lines)));
     checkFace();
+    checkPublicLines(lines);
     checkHeads(lines);
     checkLengths(lines);
     System.out.println(wrong == 0 ? "the rules are kept" : wrong + " rules are not kept");
